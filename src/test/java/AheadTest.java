@@ -8,6 +8,7 @@ public final class AheadTest {
         newerIn();
         goodIn();
         installs();
+        behindWatch();
         likeTicks();
         beyondTheLastTime();
         wrongCalls();
@@ -196,6 +197,23 @@ public final class AheadTest {
         two.begin(1, 9, 1, 0, 3);
         Check.promise(35, "triesIn");
         Check.due("TRIES of an install while another slot runs", two.triesIn(1, 3), 3);
+    }
+
+    /** A GOOD slot goes on behind WATCH, and crashes or reaches START there. */
+    private static void behindWatch() {
+        BootSlots x = Check.of("machine 2 2 0 0;slot;slot;image 0 5 6 9;mark 0 3 0 good;image 1 5 1 0");
+        x.power();
+        Check.promise(27, "floorIn");
+        Check.due("before START", x.floorIn(5), 0);
+        Check.due("at START", x.floorIn(6), 5);
+        Check.promise(30, "crashesIn");
+        Check.due("before CRASH", x.crashesIn(8), 0);
+        Check.due("at CRASH", x.crashesIn(9), 1);
+        Check.due("FAULTS are 0 at each START, so LIMIT is not reached", x.crashesIn(300), 33);
+        Check.promise(34, "calmIn");
+        Check.due("calmIn", x.calmIn(), 297);
+        Check.promise(33, "goodIn");
+        Check.due("never", x.goodIn(1), -1);
     }
 
     /** What will be is what is behind so many ticks. */

@@ -18,6 +18,7 @@ public final class ChangeTest {
         setNumber();
         undo();
         undoOfEach();
+        undoOfKeptBoots();
         save();
         restore();
         Check.end();
@@ -449,6 +450,38 @@ public final class ChangeTest {
         x.ifBooted();
         x.writeSlots();
         Check.due("no changes", x.undoable(), 3);
+    }
+
+    /** Boots that are not kept any more are kept again behind undo and restore, and counts are as before. */
+    private static void undoOfKeptBoots() {
+        Check.promise(59, "undo, boots and counts");
+        BootSlots x = Check.of("machine 2 9 3 0;slot;slot;slot;image 0 5 9 0;mark 0 9 1;image 1 6 1 0 damaged;"
+                + "mark 1 8 2;image 2 4 1 2;mark 2 7 0 good");
+        String off = Check.all(x);
+        x.power();
+        String on = Check.all(x);
+        x.tick(5);
+        String before = Check.all(x);
+        Check.due("boots, given up, hangs", Check.boots(x) + " " + x.boot(1, 2) + " " + x.count(16), "0p0 2h2 4c2 2 1");
+        x.save(0);
+        Check.due("boots, more than are kept", x.tick(60), 30);
+        x.undo();
+        Check.due("undo of many boots", Check.all(x), before);
+        x.undo();
+        Check.due("undo of a hang", Check.all(x), on);
+        x.undo();
+        Check.due("undo of all", Check.all(x), off);
+        x.power();
+        x.tick(65);
+        x.restore(0);
+        Check.due("restore behind many boots", Check.all(x), before);
+        x.spoil(2, 0);
+        x.reboot();
+        String rescue = Check.all(x);
+        x.tick(9);
+        Check.due("ticks in rescue", x.count(18), 9);
+        x.undo();
+        Check.due("undo of them", Check.all(x), rescue);
     }
 
     private static void save() {

@@ -81,6 +81,7 @@ public final class FoundTest {
         Check.due("of two the smallest number", Check.of(ORDER).newest(), 4);
         Check.due("also unsigned", Check.of("machine 1 1 1 9;slot;slot;slot;image 0 1 1 0;"
                 + "image 2 2 1 0 unsigned damaged;mark 2 0 0").newest(), 2);
+        Check.due("slot 0", Check.of("machine 1 1 1 0;slot;slot;image 0 3 1 0;image 1 2 1 0").newest(), 0);
         Check.due("VERSION 0", Check.of("machine 1 1 1 0;slot;slot;image 1 0 1 0").newest(), 1);
         Check.due("none", Check.of("machine 1 1 1 0;slot;slot").newest(), -1);
     }
@@ -116,6 +117,10 @@ public final class FoundTest {
         Check.due("the other one", two.spare(), 1);
         two.begin(1, 9, 9, 0, 9);
         Check.due("an install for the other one", two.spare(), -1);
+        BootSlots last = Check.of("machine 9 9 1 0;slot;slot;slot;image 0 5 4 0 unsigned;image 1 5 4 0");
+        Check.due("an empty one behind the others", last.spare(), 2);
+        BootSlots shut = Check.of("machine 9 9 1 0;slot;slot;image 0 5 4 0;image 1 5 4 0 unsigned");
+        Check.due("one that cannot be booted behind one that can", shut.spare(), 1);
         BootSlots empty = Check.of("machine 9 9 1 0;slot;slot;slot;image 0 5 4 0");
         Check.due("of two empty ones the smallest number", empty.spare(), 1);
     }
@@ -168,6 +173,8 @@ public final class FoundTest {
         Check.due("none", x.sinking(), 0);
         x.setNumber(5, 8);
         Check.due("FLOOR 8", x.sinking(), 2 + 8);
+        x.setNumber(5, 9);
+        Check.due("FLOOR 9", x.sinking(), 1 + 2 + 4 + 8);
         Check.due("empty ones are not counted, unsigned ones are", Check.of(WHY).sinking(), 2 + 4);
     }
 

@@ -91,6 +91,7 @@ public final class InputTest {
         BootSlots x = Check.of(ONE_IMAGE);
         x.power();
         x.tick(5);
+        x.save(0);
         x.save(1);
         String before = Check.all(x);
         Check.feed(x, "machine 1 1 1");
@@ -104,7 +105,8 @@ public final class InputTest {
         Check.due("load", x.load(ONE_IMAGE.length()), 1);
         Check.due("nothing can be undone", x.undoable(), 0);
         Check.dueThrow("undo", Check.STATE, x::undo);
-        Check.dueThrow("no state is saved", Check.STATE, () -> x.restore(1));
+        Check.dueThrow("no state is saved in 0", Check.STATE, () -> x.restore(0));
+        Check.dueThrow("no state is saved in 1", Check.STATE, () -> x.restore(1));
         Check.due("nothing is left", Check.all(x), Check.all(Check.of(ONE_IMAGE)));
     }
 
@@ -178,6 +180,18 @@ public final class InputTest {
         error("machine 9 9 1 0;;slot", 1, 16);
         error("machine 9 9 1 0 slot", 1, 16);
         error(ONE_SLOT + "s", 1, 16);
+        error(ONE_SLOT + "a", 1, 16);
+        error(ONE_SLOT + "z", 1, 16);
+        error(ONE_SLOT + "0", 1, 20);
+        error(ONE_SLOT + "9", 1, 20);
+        error("xachine 9 9 1 0;slot", 1, 0);
+        error("machinx 9 9 1 0;slot", 1, 0);
+        error(LINE + ";xlot", 1, 16);
+        error(ONE_SLOT + ";xmage 0 5 4 0", 1, 21);
+        error(ONE_IMAGE + ";xark 0 1 1", 1, 35);
+        error(ONE_IMAGE + " xnsigned", 1, 35);
+        error(ONE_IMAGE + " xamaged", 1, 35);
+        error(ONE_IMAGE + ";mark 0 1 1 xood", 1, 46);
         error(ONE_SLOT + ";slots", 1, 21);
         error(ONE_SLOT + ";", 1, 21);
         error(ONE_SLOT + "; ", 1, 22);

@@ -85,11 +85,17 @@ public final class TextTest {
         }
         Check.due("twelve that are kept", Check.boots(y),
                 "2r5 3r5 4r5 5r5 6r5 95r5 96r5 97r5 98r5 99r5 100r5 101r5");
-        for (int i = 0; i < 3; i++) {
+        y.tick(300);
+        y.tick(300);
+        y.tick(299);
+        y.reboot();
+        Check.due("the time 1000", Check.boots(y).endsWith(" 101r5 1000r5"), true);
+        for (int i = 0; i < 29; i++) {
             y.tick(300);
         }
+        y.tick(299);
         y.reboot();
-        Check.due("the time 1001", Check.boots(y).endsWith("101r5 1001r5"), true);
+        Check.due("the time 9999", Check.boots(y).endsWith(" 1000r5 9999r5"), true);
     }
 
     private static void writeMachine() {
