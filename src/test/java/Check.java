@@ -17,7 +17,12 @@ final class Check {
 
     /** Names the promise that the next answers are about. */
     static void promise(int number, String name) {
-        promise = "promise " + number + " (" + name + ")";
+        about("promise " + number + " (" + name + ")");
+    }
+
+    /** Names the words of the document that the next answers are about. */
+    static void about(String words) {
+        promise = words;
     }
 
     static void due(String what, Object got, Object want) {

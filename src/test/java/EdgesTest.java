@@ -1,0 +1,21 @@
+/**
+ * The boundary cases of the document, sentence by sentence; each answer is told with the words that it
+ * holds. At last no word of sections 1 to 6 and of promises 1 to 62 may be left that no test has held.
+ */
+public final class EdgesTest {
+    public static void main(String[] args) {
+        SlotEdges.all();
+        TickEdges.all();
+        GrammarEdges.all();
+        InputEdges.all();
+        NowEdges.all();
+        FoundEdges.all();
+        AheadEdges.all();
+        OtherwiseEdges.all();
+        TextEdges.all();
+        ChangeEdges.all();
+        RuleEdges.all();
+        Doc.checkAllIsHeld();
+        Check.end();
+    }
+}
