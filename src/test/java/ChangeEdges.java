@@ -397,7 +397,7 @@ final class ChangeEdges extends Edge {
             x.save(slot);
             x.cut();
             x.undo();
-            x.writeMachine();
+            x.writeBoots();
             String text = written(x);
             due("restore", x.restore(slot), 3);
             due("all of the machine is told again", Check.all(x), told);

@@ -120,14 +120,21 @@ final class RuleEdges extends Edge {
         String[] told = new String[CHANGES.length];
         BootSlots x = Check.of(NowTest.FOUR);
         for (int i = 0; i < CHANGES.length; i++) {
-            told[i] = Check.counts(x) + Check.slots(x);
+            told[i] = brief(x);
             CHANGES[i].on(x);
+            due("change " + i + " alters something", brief(x).equals(told[i]), false);
             due("change " + i + " counts", x.undoable(), i + 1);
         }
         for (int i = CHANGES.length - 1; i >= 0; i--) {
             due("undo of change " + i, x.undo(), i);
-            due("as it was before change " + i, Check.counts(x) + Check.slots(x), told[i]);
+            due("as it was before change " + i, brief(x), told[i]);
         }
+    }
+
+    /** What the changes alter, in few calls. */
+    private static String brief(BootSlots x) {
+        return x.count(1) + " " + x.count(2) + " " + x.count(6) + " " + x.count(8) + " " + x.count(11) + " " + x.count(12)
+                + " " + x.install(0) + " " + x.image(0, 4) + " " + x.slot(0, 1) + " " + x.slot(1, 2) + " " + x.slot(3, 0);
     }
 
     private static void sameAgain() {
