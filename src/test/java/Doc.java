@@ -1,15 +1,24 @@
 import java.io.IOException;
 import java.nio.file.Files;
 import java.nio.file.Path;
+import java.util.ArrayList;
 import java.util.Arrays;
 import java.util.LinkedHashMap;
+import java.util.List;
 import java.util.Map;
 
-/** The words of the document, cut into "section 1" to "section 6" and "promise 1" to "promise 62". */
+/**
+ * The words of the document, from its first line to its last, cut into its chapters ("What it is" and so on),
+ * "section 1" to "section 6" and "promise 1" to "promise 62".
+ */
 final class Doc {
+    /** The part that FaceTest compares with the class. */
+    static final String FACE = "The public face";
+
     private static final Path PLACE = Path.of("..", "shared", "DOC.md");
     private static final Map<String, String> PARTS = new LinkedHashMap<>();
     private static final Map<String, boolean[]> HELD = new LinkedHashMap<>();
+    private static final List<String> HEADS = new ArrayList<>();
 
     static {
         read();
@@ -37,10 +46,12 @@ final class Doc {
             if (name.equals("Terms")) {
                 cutTerms(body);
             } else if (name.startsWith("Promise ")) {
-                // the heading and the head of the method are not words to be held
-                keep("promise " + name.substring(8, name.indexOf(':')), body.replaceFirst("`[^`]*`:", ""));
+                // the head of the method is not words to be held: FaceTest compares it with the class
+                int end = body.indexOf("`:");
+                HEADS.add(body.substring(body.indexOf('`') + 1, end));
+                keep("promise " + name.substring(8, name.indexOf(':')), body.substring(end + 2));
             } else {
-                keep(name, body);
+                keep(name, body.replace("```java", "").replace("```", ""));
             }
         }
     }
@@ -62,12 +73,22 @@ final class Doc {
         return words.replaceAll("\\s+", " ").trim();
     }
 
+    /** The words of a part; none if the document is not there. */
+    static String words(String part) {
+        return PARTS.getOrDefault(part, "");
+    }
+
+    /** The heads of the methods, by promises. */
+    static List<String> heads() {
+        return HEADS;
+    }
+
     /** The quoted words must stand in that part of the document. */
     static void hold(String part, String words) {
         if (PARTS.isEmpty()) {
             return;
         }
-        String all = PARTS.getOrDefault(part, "");
+        String all = words(part);
         int at = all.indexOf(words);
         Check.due("these words stand in " + part, at >= 0, true);
         while (at >= 0) {
@@ -76,10 +97,10 @@ final class Doc {
         }
     }
 
-    /** What is left of sections and promises when all that was held is taken out, must tell nothing. */
+    /** What is left of the document when all that was held is taken out, must tell nothing. */
     static void checkAllIsHeld() {
         for (String part : PARTS.keySet()) {
-            if (part.startsWith("section ") || part.startsWith("promise ")) {
+            if (!part.equals(FACE)) {
                 Check.about(part);
                 Check.due("words that no test holds", left(part), "");
             }

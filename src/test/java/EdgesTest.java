@@ -1,6 +1,6 @@
 /**
  * The boundary cases of the document, sentence by sentence; each answer is told with the words that it
- * holds. At last no word of sections 1 to 6 and of promises 1 to 62 may be left that no test has held.
+ * holds. At last no word of the document may be left that no test has held (its public face is FaceTest's).
  */
 public final class EdgesTest {
     public static void main(String[] args) {
@@ -15,6 +15,7 @@ public final class EdgesTest {
         TextEdges.all();
         ChangeEdges.all();
         RuleEdges.all();
+        WholeEdges.all();
         Doc.checkAllIsHeld();
         Check.end();
     }

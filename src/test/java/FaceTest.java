@@ -2,10 +2,14 @@ import java.lang.reflect.Constructor;
 import java.lang.reflect.Field;
 import java.lang.reflect.Method;
 import java.lang.reflect.Modifier;
+import java.util.ArrayList;
 import java.util.Arrays;
 import java.util.HashSet;
+import java.util.List;
 import java.util.Set;
 import java.util.TreeSet;
+import java.util.regex.Matcher;
+import java.util.regex.Pattern;
 
 /** The face of the class is that of the document, with nothing beside it (LANGUAGE.md, rules 1 and 5). */
 public final class FaceTest {
@@ -58,6 +62,7 @@ public final class FaceTest {
         }
         checkFields();
         checkConstructors();
+        checkDocument();
         Check.end();
     }
 
@@ -71,6 +76,32 @@ public final class FaceTest {
             told.append(" ").append(e.getSimpleName());
         }
         return told.toString();
+    }
+
+    /** The face above is that of the document, and the heads of the promises are those of its face. */
+    private static void checkDocument() {
+        if (Doc.words(Doc.FACE).isEmpty()) {
+            return;
+        }
+        List<String> face = new ArrayList<>();
+        Matcher head = Pattern.compile("public ([^;={}]+\\)[^;={}]*);").matcher(Doc.words(Doc.FACE));
+        while (head.find()) {
+            face.add(head.group(1));
+        }
+        Check.due("the heads of the promises", Doc.heads(), face);
+        Set<String> told = new TreeSet<>();
+        for (String line : face) {
+            told.add(withoutNames(line));
+        }
+        told.remove("BootSlots()");
+        Check.due("the document's face", told, new TreeSet<>(Arrays.asList(FACE)));
+        String rest = Doc.words(Doc.FACE).replaceAll("public [^;={}]+\\)[^;={}]*;", "").replaceAll("\\s+", " ");
+        Check.due("what else it tells", rest, "public final class BootSlots { public static final int NONE = -1; }");
+    }
+
+    private static String withoutNames(String head) {
+        return head.replaceAll("int \\w+(?=[,)])", "int").replace(", int", ",int").replaceFirst(" throws ", " ")
+                .replace(", I", " I");
     }
 
     private static void checkFields() {
